@@ -1136,8 +1136,7 @@ public final class FavourTown {
         }
 
         boolean wasHeldBy(int favour, int person) {
-            int length = rowLength(favour);
-            for (int k = 1; k < length; k++) {
+            for (int k = 1; k < at(hands, favour) + 2; k++) {
                 if (at(rows, favour * ROW + k) == person) {
                     return true;
                 }
@@ -1216,7 +1215,7 @@ public final class FavourTown {
         void become(Town other) {
             people.become(other.people);
             favours.become(other.favours);
-            for (int k = 0; k < MOST_TEMPERS; k++) {
+            for (int k = 0; k < tempers.length && k < other.tempers.length; k++) {
                 tempers[k] = other.tempers[k];
             }
             copy(other.needBy, needBy);
@@ -1281,10 +1280,9 @@ public final class FavourTown {
                 return true;
             }
             int end = at(favours.end, favour);
-            int hands = at(favours.hands, favour) + 1;
             tell(Temper.AMOUNT, at(favours.amount, favour));
             tell(Temper.WORTH, favours.worth(favour, 1) / WHOLE);
-            tell(Temper.HANDS, hands);
+            tell(Temper.HANDS, at(favours.hands, favour) + 1);
             tell(Temper.LEFT, end == NONE ? NO_END_LEFT : end - day);
             tell(Temper.TIMED, oneIf(end != NONE));
             tell(Temper.AGAIN, oneIf(favours.wasHeldBy(favour, person)));
@@ -1561,8 +1559,8 @@ public final class FavourTown {
         private final int[] owed = new int[MOST_PEOPLE * MOST_PEOPLE];
         private final int[] tried = new int[MOST_RINGS];
         private final int[] best = new int[MOST_RINGS];
-        private int bestSum;
         private final Town town;
+        private int bestSum;
 
         RingOrder(Town town) {
             this.town = town;

@@ -37,6 +37,8 @@ public final class ModelTest {
         }
         if (number % 3 == 0) {
             fill();
+        } else if (number % 3 == 1) {
+            indebt();
         }
         int calls = 60 + draw(300);
         for (int k = 0; k < calls; k++) {
@@ -63,6 +65,35 @@ public final class ModelTest {
             tell(rowText(2 + draw(3)), "ring");
         }
         tell("take if worth>" + draw(9) + ";take if near", "temper");
+    }
+
+    /** A town in which most owe all they may, so that needs are met by forgiving alone. */
+    private void indebt() {
+        x = new FavourTown();
+        m = new Model();
+        people = 4 + draw(4);
+        StringBuilder text = new StringBuilder("person 12");
+        for (int p = 1; p < people; p++) {
+            text.append(";person ").append(8 + draw(20));
+        }
+        tell(text.toString(), "town");
+        for (int k = 0; k < 36; k++) {
+            int a = draw(people);
+            int b = draw(people);
+            int amount = 1 + draw(9);
+            same("indebt", () -> x.give(a, b, amount, 0, false), () -> m.give(a, b, amount, 0, false));
+        }
+        tell("take if owed<" + (3 + draw(20)) + " or near", "temper");
+        for (int p = 0; p < people; p += 2) {
+            int who = p;
+            same("indebt", () -> x.has(who, 0), () -> m.has(who, 0));
+        }
+        for (int k = 0; k < 4; k++) {
+            int a = draw(people);
+            int b = (a + 1 + draw(people - 1)) % people;
+            tell("need " + a + " of " + b + " " + (6 + draw(9)), "town");
+            same("fewest", () -> x.fewest(), () -> m.fewest());
+        }
     }
 
     private int person() {

@@ -159,7 +159,7 @@ public final class PromisesTest {
     private void promise4WrongTowns() {
         FavourTown x = Check.told(THREE, "give 0 to 1 8");
         String[] texts = {
-            "person", "person 1000", "person 0001", "person x", "persons 1", "Person 1", "person 1 1",
+            "person", "person 1000", "person 0001", "person x", "persons 1", "personz 1", "apple", "Person 1", "person 1 1",
             ";", " ; ", "law 1;", "law 1;;law 2", "law 11", "law 1 person 2", "law -1", "law 1\t",
             "near 0", "near 3 0", "near 0 3", "near 1 1", "near 01", "near 0 00", "near 0,1",
             "give 0 1 5", "give 0 to 0 5", "give 0 to 1 0", "give 0 to 1 100", "give 0 to 1", "give 0 to 1 5 for",
@@ -169,7 +169,7 @@ public final class PromisesTest {
             "need 0 of 1", "take", "call 0   ", "call   ", "law 1 ; give 0 to 1 1 ; pass 2 to 2",
         };
         int[] faults = {
-            6, 7, 7, 7, 0, 0, 9,
+            6, 7, 7, 7, 0, 0, 0, 0, 9,
             0, 1, 6, 6, 4, 6, 4, 5,
             6, 5, 7, 7, 7, 7, 6,
             7, 10, 12, 12, 11, 17,
@@ -706,6 +706,11 @@ public final class PromisesTest {
         FavourTown y = Check.told("person 10;person 10;person 10;give 0 to 2 5;give 0 to 1 5;need 0 of 1 5");
         due("the least of several", y.fewest(), 2);
         due("both singly", y.enough(4), true);
+        // the fewest come ahead of the least as bits
+        FavourTown v = Check.told(FOUR.replace("999", "12") + ";give 3 to 0 3;give 3 to 1 3;give 3 to 2 6;need 3 of 0 6");
+        due("two together", v.enough(3), true);
+        due("none of them alone", v.enough(1) || v.enough(2), false);
+        due("one alone", v.fewest(), 4);
         // to forgive can take away what one would pay with
         FavourTown z = Check.told("person 0;person 9;person 9;give 1 to 0 8;need 0 of 2 4");
         due("enough of none", z.enough(0), true);
@@ -771,10 +776,29 @@ public final class PromisesTest {
         due("most", y.most(0, 1), 8);
         due("cut", y.cut(0, 1), 1 | 4 | 8);
         due("nothing stays", y.look(0, 1), 0);
+        flowTakenBack();
         check.fails("nobody", NOBODY, () -> y.most(0, 5));
         check.fails("both one", WRONG, () -> y.most(2, 2));
         check.fails("cut of nobody", NOBODY, () -> y.cut(-1, 0));
         check.fails("cut of one", WRONG, () -> y.cut(2, 2));
+    }
+
+    /** The first way found, 0 1 3 5, must give way to 0 1 4 5, for 2 can go by 3 alone. */
+    private void flowTakenBack() {
+        FavourTown x = Check.told("person 0;person 0;person 0;person 0;person 0;person 0;person 999",
+            "give 6 to 0 6;give 6 to 0 20;give 6 to 1 8;give 6 to 2 10;give 6 to 1 16;give 6 to 3 4;give 6 to 4 18");
+        String[] tempers = {"", "amount>5 and amount<7", "amount>19", "amount<11 and amount>7",
+            "amount>15 and amount<17", "amount<5 or amount>17 and amount<19"};
+        for (int p = 0; p < tempers.length; p++) {
+            Check.temper(x, p == 0 ? "refuse" : "take if " + tempers[p]);
+            x.has(p, p);
+        }
+        int[] wants = {0, 3, 10, 0, 0, 0};
+        for (int to = 1; to < wants.length; to++) {
+            due("port 0 to " + to, x.port(0, to), wants[to]);
+        }
+        due("most with a way taken back", x.most(0, 5), 5);
+        due("cut with a way taken back", x.cut(0, 5), 1 | 4 | 8);
     }
 
     private void promise28Chain() {
@@ -865,6 +889,15 @@ public final class PromisesTest {
         due("of several the greatest", x.ruined(2), 3);
         FavourTown y = Check.told(FOUR + ";give 0 to 3 4;pass 0 to 2;give 0 to 1 4;pass 1 to 2");
         due("of several alike the least", y.ruined(2), 1);
+        FavourTown z = Check.told(THREE + ";give 0 to 1 1");
+        for (int k = 0; k < 9; k++) {
+            z.pass(0, 2 - k % 2);
+        }
+        z.days(1);
+        due("behind nine hands", z.look(0, 4), 2);
+        Check.town(z, "person 1;pass 0 to 3");
+        due("the least loss", z.loss(3, 2), 1);
+        due("ruins", z.ruined(3), 2);
         check.fails("loss of nobody", NOBODY, () -> y.loss(4, 0));
         check.fails("loss by nobody", NOBODY, () -> y.loss(0, -1));
         check.fails("ruined nobody", NOBODY, () -> y.ruined(4));
