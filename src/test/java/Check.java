@@ -5,10 +5,16 @@ final class Check {
     }
 
     private final String name;
+    private String about = "";
     private int wrong;
 
     Check(String name) {
         this.name = name;
+    }
+
+    /** What is told ahead of each answer that is wrong from now on. */
+    void about(String what) {
+        about = what + ": ";
     }
 
     void due(String what, long got, long want) {
@@ -23,7 +29,7 @@ final class Check {
 
     void fail(String what) {
         wrong++;
-        System.out.println(name + ": " + what);
+        System.out.println(name + ": " + about + what);
     }
 
     void fails(String what, Class<? extends RuntimeException> want, Call call) {
