@@ -547,6 +547,12 @@ final class CallEdges extends Edges {
             due("hand " + k, x.hand(0, k), 1 - k % 2);
         }
         due("the last, home", x.hand(0, 11), 2);
+        FavourTown y = people(3, 999);
+        fillWithFavours(y, 1);
+        Check.town(y, times(5, "pass 39 to 2;pass 39 to 1"));
+        for (int k = 0; k < 12; k++) {
+            due("of the last favour: " + k, y.hand(39, k), k == 0 ? 0 : 2 - k % 2);
+        }
     }
 
     @Sentence(promise = 13, value = "NONE behind it.")

@@ -227,6 +227,15 @@ final class PeopleEdges extends Edges {
         due("passed by force", x.look(0, 1), 3);
         Check.town(x, "give 0 to 2 98 forced");
         due("the LIMIT holds for force too", x.count(3), 3);
+        FavourTown last = people(12, 99);
+        has(last, 11, "refuse");
+        for (int k = 0; k < 39; k++) {
+            last.give(0, 1, 1, 0, false);
+        }
+        due("the last of all people refuses", last.give(0, 11, 1, 0, false), NONE);
+        due("the last of all favours", last.give(0, 11, 1, 0, true), 39);
+        yes("forced as well", last.takes(11, 39));
+        no("unlike the one ahead", last.takes(11, 38));
     }
 
     @Sentence("the first LINE that holds is take")
@@ -333,6 +342,8 @@ final class PeopleEdges extends Edges {
         x.pass(1, 2);
         measures(x, "owed", 3, 2, 0);
         measures(x, "owed", 0, 1, 0);
+        FavourTown y = people(4, 999, times(10, "give 0 to 1 99"), "give 2 to 3 1;pass 10 to 1");
+        measures(y, "owed", 990, 1, 0);
         yes("now, not with the gift", givenIf(x, just("owed", 0), 5, 0));
     }
 
@@ -378,6 +389,7 @@ final class PeopleEdges extends Edges {
         no("who never held it", takesIf(x, "again", 3, 0));
         no("the giver", takesIf(x, "again", 0, 0));
         no("another favour", takesIf(x, "again", 1, 1));
+        yes("who holds it, once more", takesIf(x, "again", 2, 0));
         no("a gift", givenIf(x, "again", 1, 0));
         for (int k = 2; k <= 9; k++) {
             x.pass(0, 1 + k % 2);

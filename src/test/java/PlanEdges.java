@@ -115,6 +115,33 @@ final class PlanEdges extends Edges {
         Check.town(x, "need 1 of 0 6");
         no("the last of all", x.enough(2));
         due("that one", x.witness(2), 2);
+        FavourTown y = people(4, 8, "give 3 to 0 8 forced;need 0 of 2 4", "law 1");
+        has(y, 2, "refuse if again;take if hands>0 and worth>4");
+        yes("paid, for it is forced", y.enough(0));
+        due("if 0 forgives, 2 takes no gift", y.witness(1), 0);
+        due("nobody need forgive", y.fewest(), 0);
+        y.pass(0, 2);
+        no("it is paid by now", y.enough(0));
+    }
+
+    @Sentence("(by itself) can be MET.")
+    void metByTheTemperOfB() {
+        FavourTown x = people(4, 8, "need 0 of 1 4;need 0 of 2 4;give 1 to 2 8;pass 0 to 3;pass 0 to 0");
+        due("both", x.witness(0), NONE);
+        has(x, 2, "refuse if again;take");
+        due("not the one who held it, but by giving", x.witness(0), NONE);
+        Check.town(x, "need 0 of 3 1;need 0 of 2 1");
+        has(x, 2, "take if hands>0 and not again");
+        due("the one who held it takes it no more", x.witness(0), 1);
+        has(x, 3, "take if again and worth+1>1 and hands>2");
+        Check.town(x, "need 0 of 3 9");
+        due("1 forgiving", x.witness(2), 1);
+        x.has(2, NONE);
+        due("the last", x.witness(0), 4);
+        FavourTown y = people(3, 8, "give 1 to 0 2;need 2 of 0 3");
+        has(y, 0, "take if owed<2");
+        due("0 is owed too much", y.witness(0), 0);
+        due("and less, if 0 forgives", y.witness(1), NONE);
     }
 
     @Sentence("FEWEST: the least such set: the fewest, of several the least as bits; none.")
@@ -173,7 +200,24 @@ final class PlanEdges extends Edges {
         due("24 of 24 and 3 quarters", x.port(2, 3), 24);
     }
 
-    @Sentence("MOST from one to another: the greatest flow, no PORT being used for more than it is.")
+    @Sentence("that all FAVOURS held by the first that could be PASSED to the other (who is not its GIVER) would be worth there.")
+    void portOfWhatCouldBePassed() {
+        FavourTown x = people(4, 999, "give 0 to 1 8;give 2 to 1 20;give 0 to 1 40;give 0 to 3 60");
+        due("not what the other gave", x.port(1, 2), 4 + 20);
+        due("not what another holds", x.port(1, 3), 4 + 10 + 20);
+        has(x, 3, "take if amount<21");
+        due("not what is not taken", x.port(1, 3), 4 + 10);
+        x.call(0);
+        due("not what is gone", x.port(1, 3), 10);
+        Check.town(x, "law 1");
+        due("one hand is left", x.port(1, 3), 10);
+        x.pass(1, 3);
+        due("no hand is left", x.port(3, 1), 30);
+        Check.town(x, "law 0");
+        due("nothing by law 0", x.port(3, 1), 0);
+    }
+
+    @Sentence("MOST from one to another: the greatest flow")
     void theGreatestFlow() {
         FavourTown none = people(2, 9);
         due("no ports", none.most(0, 1), 0);
@@ -184,10 +228,24 @@ final class PlanEdges extends Edges {
         due("to who gave all", x.most(0, 4), 0);
         Check.town(x, "law 0");
         due("no hands", x.most(0, 3), 0);
+    }
+
+    @Sentence("no PORT being used for more than it is.")
+    void noPortIsUsedForMore() {
         FavourTown row = rowOf12();
         due("along all 12 the least of all ports", row.most(11, 10), 2);
         due("to the one ahead", row.most(11, 9), 3);
+        due("of a part of it", row.most(3, 7), 5);
         due("nothing comes back", row.most(10, 11), 0);
+        // 11 pays 4, 10 pays 2 and 9 pays 1 to each but who gave
+        FavourTown all = people(12, 99, "give 0 to 11 8;give 0 to 10 4;give 11 to 9 2");
+        for (int to = 1; to < 9; to++) {
+            due("by 10 and by 9 to " + to, all.most(11, to), 4 + 2 + 1);
+        }
+        due("by 10", all.most(11, 9), 4 + 2);
+        due("by 9", all.most(11, 10), 4 + 1);
+        due("to the last", all.most(10, 11), 2);
+        due("by the last", all.most(10, 9), 2 + 2);
     }
 
     /** 11 can pay 0 alone by its FAVOUR, 0 can pay 1 alone and so on to 10: PORTS of 12, 11, 10 down to 2. */
@@ -211,6 +269,22 @@ final class PlanEdges extends Edges {
         due("nobody, as 1 can give no more", x.cut(1, 3), 2);
         due("all but who gave", x.cut(0, 4), 15);
         due("all of 12 but the last", rowOf12().cut(11, 10), 4095 - 1024);
+    }
+
+    @Sentence("(they are the same by all)")
+    void theSameByAllFlows() {
+        // of 5 to each of 1 and 2, and 6 from each to 3, 7 come to 4: by 1, by 2, or by both
+        FavourTown x = people(6, 999, "give 5 to 0 10;give 5 to 1 12;give 5 to 2 12;give 5 to 3 14");
+        has(x, 1, "take if amount<11");
+        x.has(2, 0);
+        has(x, 3, "take if amount>11 and amount<13");
+        has(x, 4, "take if amount>13");
+        has(x, 0, "refuse");
+        due("most", x.most(0, 4), 7);
+        due("all but the last", x.cut(0, 4), 15);
+        Check.town(x, "give 5 to 3 18 forced");
+        due("more than comes", x.most(0, 4), 10);
+        due("the first alone", x.cut(0, 4), 1);
     }
 
     @Sentence("as bits, the first too.")
@@ -237,6 +311,9 @@ final class PlanEdges extends Edges {
             due("person " + k, row.chain(11, 10, 2, k), k == 0 ? 11 : k - 1);
         }
         due("behind", row.chain(11, 10, 2, 12), NONE);
+        due("a part of it", row.chain(3, 7, 1, NONE), 4);
+        due("straight from the last", people(12, 99, "give 0 to 11 8").chain(11, 10, 4, NONE), 1);
+        due("straight to the last", people(12, 99, "give 0 to 10 8").chain(10, 11, 4, 1), 11);
         due("one step by its whole port", row.chain(11, 0, 12, NONE), 1);
         due("one step above it", row.chain(11, 0, 13, NONE), NONE);
         // straight for what is small, round by 1 for what is large
@@ -307,6 +384,22 @@ final class PlanEdges extends Edges {
             fails("\"" + row + "\"", WRONG, () -> Check.ring(x, row));
         }
         due("two", x.count(6), 2);
+    }
+
+    @Sentence("each owing the next, the last the first.")
+    void theLastOwesTheFirst() {
+        FavourTown x = people(6, 99, "give 0 to 1 9;give 1 to 2 9;give 2 to 3 9;give 3 to 4 9;give 4 to 5 9");
+        Check.ring(x, "abcdef");
+        Check.ring(x, "abc");
+        due("no last one owes its first", x.clear(NONE), 0);
+        Check.town(x, "give 5 to 0 2");
+        due("the last of 6", x.clear(NONE), 12);
+        Check.town(x, "give 2 to 0 3");
+        due("and of 3", x.clear(NONE), 12 + 9);
+        Check.ring(x, "fedcba");
+        due("nobody owes the other way", x.clear(NONE), 12 + 9);
+        Check.ring(x, "cab");
+        due("the same ring from another begin finds what is left", x.clear(NONE), 12 + 9);
     }
 
     @Sentence("CLEARED: the least that is OWED in it is taken from all of it (so many times as many as it has PEOPLE)")
@@ -412,6 +505,11 @@ final class PlanEdges extends Edges {
         Check.town(x, "give 1 to 11 1;pass 4 to 0");
         due("more by two", x.ruined(0), 11);
         due("another", x.ruined(5), NONE);
+        Check.town(x, "give 1 to 0 1;" + times(4, "pass 5 to 2;pass 5 to 0") + ";pass 5 to 2;pass 5 to 3");
+        due("the least loss there is", x.loss(3, 2), 1);
+        due("by the least loss there is", x.ruined(3), 2);
+        Check.town(x, "give 1 to 0 1;pass 6 to 4");
+        due("by the first of all", x.ruined(4), 0);
     }
 
     @Sentence("HANDS ROW of a FAVOUR: its GIVER, then all who have held it, in order (the GIVER again, if it came home).")
@@ -471,7 +569,7 @@ final class PlanEdges extends Edges {
         }
     }
 
-    @Sentence("PLAYED by a SEED, so many DAYS (0 to 60)")
+    @Sentence("PLAYED by a SEED, so many DAYS (0 to 60): each DAY, of each PERSON in order")
     void playedFor0To60Days() {
         FavourTown x = people(2, 300, "give 0 to 1 9 for 30;give 0 to 1 9 for 1");
         for (int days : new int[] {0, 1, 2, 59, 60}) {
@@ -502,7 +600,7 @@ final class PlanEdges extends Edges {
         playsAsByCalls(people(12, 99), 5, 4);
     }
 
-    @Sentence("one modulo 9, and 1: how many WHOLES: it is MET as a NEED, if it can be.")
+    @Sentence("one modulo 9, and 1: how many WHOLES")
     void from1To9Wholes() {
         FavourTown least = people(2, 1);
         FavourTown most = people(2, 9);
@@ -519,6 +617,20 @@ final class PlanEdges extends Edges {
             due("LIMIT 9, seed " + first, most.play(first, 1, 2), 0);
         }
         yes("some of 1 were asked for", met > 0);
+    }
+
+    @Sentence("it is MET as a NEED, if it can be.")
+    void playedByTempersToo() {
+        String[] tempers = {"take if again", "take if near or hands>0 and worth>3", "take if owed<9", "take if debt<5+hands",
+            "refuse if timed;take if left>5 and worth+1>amount", "refuse"};
+        for (int first = 0; first < 30; first++) {
+            FavourTown x = people(4, 40, "near 0 1;near 2 3;give 0 to 1 18 for 2;give 1 to 2 18 forced;give 2 to 3 18 for 9 forced");
+            Check.town(x, "give 3 to 0 18;pass 3 to 1;pass 3 to 2;give 3 to 1 20;law " + first % 4);
+            for (int person = 0; person < 4; person++) {
+                has(x, person, tempers[(first + person * 5) % 6]);
+            }
+            playsAsByCalls(x, first * 7919, 5);
+        }
     }
 
     @Sentence("Behind all it is a DAY more. (Nothing stays.)")

@@ -268,7 +268,8 @@ final class TextEdges extends Edges {
     @Sentence("ATOM: not ATOM | ( C ) | near | timed | again | SUM \u2039 SUM | SUM \u203a SUM")
     void atoms() {
         FavourTown x = people(2, 99, "give 0 to 1 9");
-        no("not", takesIf(x, "not 1<2", 1, 0));
+        no("not of what holds", takesIf(x, "not 1<2", 1, 0));
+        yes("not of what does not", takesIf(x, "not 2<1", 1, 0));
         no("not is of one atom alone", takesIf(x, "not 2<1 and 2<1", 1, 0));
         no("not of brackets", takesIf(x, "not (2<1 or 1<2)", 1, 0));
         yes("brackets first", takesIf(x, "(1<2 or 2<1) and 1<2", 1, 0));
@@ -289,6 +290,7 @@ final class TextEdges extends Edges {
         no("just so", takesIf(x, "1+2+3>6", 1, 0));
         yes("the longest in a text", takesIf(x, times(90, "999").replace(';', '+') + "<worth", 1, 0) == false);
         yes("just the longest", takesIf(x, times(90, "999").replace(';', '+') + ">999", 1, 0));
+        rightTempers("take if " + "1+".repeat(194) + "1<1", "take if " + "1+".repeat(194) + "1<1 ");
         wrongTempers("take if 1+<3", 10, "take if +1<3", 8, "take if 1<2+", 12, "take if 1++2<3", 10, "take if 1<+2", 10,
             "take if 1 2<3", 10, "take if worth+near<3", 14, "take if 1-1<3", 9);
     }
@@ -310,7 +312,7 @@ final class TextEdges extends Edges {
 
     @Sentence("Words are as long as a to z go on")
     void wordsGoOn() {
-        wrongTowns("persons 1", 0, "perso 1", 0, "givea 0", 0, "give 0 too 1 9", 7, "give 0 to 1 9 forforced", 14,
+        wrongTowns("persons 1", 0, "personz 1", 0, "persona 1", 0, "perso 1", 0, "givea 0", 0, "give 0 too 1 9", 7, "give 0 to 1 9 forforced", 14,
             "per son 1", 0, "callcall 0", 0);
         rightTowns("person1", "give 0 to1 9", "call 0;call 0");
         wrongTempers("takes", 0, "takeif near", 0, "take if nearor timed", 8, "take if notnear", 8, "tak", 0);
