@@ -184,6 +184,13 @@ final class PlanEdges extends Edges {
         due("the last of 12", y.witness(0), 11);
         FavourTown z = people(2, 9, times(12, "need 0 of 1 9"));
         due("none of 12", z.witness(0), NONE);
+        FavourTown full = people(2, 999);
+        fillWithFavours(full, 1);
+        has(full, 0, "refuse");
+        due("no needs, though nobody could give", full.witness(0), NONE);
+        Check.town(full, "give 0 to 1 1;call 0");
+        yes("no needs are enough", full.enough(2));
+        due("nobody need forgive", full.fewest(), 0);
     }
 
     @Sentence("PORT from one to another: WHOLES (each FAVOUR by itself rounded down)")
@@ -676,6 +683,26 @@ final class PlanEdges extends Edges {
         x.call(1);
         x.back();
         due("one alone: " + seen(x), bit(seen(x).equals(later)), 1);
+    }
+
+    @Sentence("may be kept, and gone back to")
+    void nobodyOfLaterIsLeft() {
+        // 0 pays 3 alone, who takes what is small, and 3 pays 2, who takes what is large
+        FavourTown x = people(3, 99, "give 1 to 0 8");
+        has(x, 2, "take if amount>20");
+        x.image();
+        Check.town(x, "person 9;give 1 to 3 40");
+        due("as much as comes to 3", x.most(0, 2), 4);
+        due("cut", x.cut(0, 2), 1);
+        due("by 3", x.chain(0, 2, 4, NONE), 2);
+        x.back();
+        due("no 3 any more", x.chain(0, 2, 4, NONE), NONE);
+        due("nobody on it", x.chain(0, 2, 4, 1), NONE);
+        due("no flow", x.most(0, 2), 0);
+        due("1 gave it, and 2 does not take it", x.cut(0, 2), 1);
+        Check.town(x, "person 9");
+        due("the next one is another", x.rich(3), 0);
+        due("by whom nothing goes", x.chain(0, 2, 4, NONE), NONE);
     }
 
     @Sentence("Of several exceptions the one told first is thrown")
